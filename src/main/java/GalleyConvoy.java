@@ -44,8 +44,7 @@ public final class GalleyConvoy {
     private final ArrayList<Galley> galleys = new ArrayList<>();
     private final ArrayList<Bale> bales = new ArrayList<>();
     private final ArrayList<Vote> votes = new ArrayList<>();
-    private final Tape tape = new Tape();
-    private final Reader reader = new Reader(tape);
+    private final Reader reader = new Reader();
     private final Teller teller = new Teller();
     // One row for lading and throwing alike, so that no day makes a new one.
     private final ArrayList<Bale> ranked = new ArrayList<>();
@@ -184,11 +183,11 @@ public final class GalleyConvoy {
         if (!within(n, 1, 4)) {
             return BAD;
         }
-        if (tape.length + n > MOST_BYTES) {
+        if (reader.tape.length + n > MOST_BYTES) {
             return FULL;
         }
-        tape.append(n, v);
-        return tape.length;
+        reader.tape.append(n, v);
+        return reader.tape.length;
     }
 
     public int vote(int kind) {
@@ -199,7 +198,7 @@ public final class GalleyConvoy {
             return FULL;
         }
         int fault = reader.read();
-        tape.length = 0;
+        reader.tape.length = 0;
         if (fault != Reader.NO_FAULT) {
             return FAULT_AT_0 - fault;
         }
@@ -291,7 +290,7 @@ public final class GalleyConvoy {
             case 6: return balesInState(ABOARD);
             case 7: return balesInState(GIVEN_OUT);
             case 8: return balesInState(THROWN);
-            case 9: return tape.length;
+            case 9: return reader.tape.length;
             default: return BAD;
         }
     }
@@ -743,17 +742,13 @@ public final class GalleyConvoy {
         private static final int MOST_DIGITS = 5;
         private static final int MOST_OPEN = 12;
 
-        private final Tape text;
+        final Tape tape = new Tape();
         private int place;
         private int token;
         private int tokenStart;
         private int tokenValue;
         private final int[] steps = new int[MOST_BYTES];
         private int stepCount;
-
-        Reader(Tape text) {
-            this.text = text;
-        }
 
         /** The FAULT of what the tape has, or NO_FAULT. */
         int read() {
@@ -900,33 +895,33 @@ public final class GalleyConvoy {
         }
 
         private void nextToken() {
-            for (int i = 0; i < MOST_BYTES && place < text.length && text.at(place) == ' '; i++) {
+            for (int i = 0; i < MOST_BYTES && place < tape.length && tape.at(place) == ' '; i++) {
                 place++;
             }
             tokenStart = place;
-            if (place >= text.length) {
+            if (place >= tape.length) {
                 token = END;
-            } else if (isDigit(text.at(place))) {
+            } else if (isDigit(tape.at(place))) {
                 takeNumber();
-            } else if (isLetter(text.at(place))) {
+            } else if (isLetter(tape.at(place))) {
                 takeWord();
             } else {
-                token = text.at(place);
+                token = tape.at(place);
                 place++;
             }
         }
 
         private void takeNumber() {
             tokenValue = 0;
-            for (int i = 0; i < MOST_BYTES && isDigit(text.at(place)); i++) {
-                tokenValue = tokenValue * 10 + text.at(place) - '0';
+            for (int i = 0; i < MOST_BYTES && isDigit(tape.at(place)); i++) {
+                tokenValue = tokenValue * 10 + tape.at(place) - '0';
                 place++;
             }
             token = place - tokenStart <= MOST_DIGITS ? NUMBER : STRANGE;
         }
 
         private void takeWord() {
-            for (int i = 0; i < MOST_BYTES && isLetter(text.at(place)); i++) {
+            for (int i = 0; i < MOST_BYTES && isLetter(tape.at(place)); i++) {
                 place++;
             }
             token = STRANGE;
@@ -941,7 +936,7 @@ public final class GalleyConvoy {
         /** Whether the bytes from the token's start to the place are that word and no more. */
         private boolean isWord(int word) {
             for (int i = 0; i < WORD_PLACES; i++) {
-                int letter = tokenStart + i < place ? text.at(tokenStart + i) : ' ';
+                int letter = tokenStart + i < place ? tape.at(tokenStart + i) : ' ';
                 if (letter != WORDS.charAt(word * WORD_PLACES + i)) {
                     return false;
                 }
