@@ -2,7 +2,8 @@ import java.util.Random;
 
 /**
  * Runs of 512 calls with ordinary, edge and wildly wrong numbers: every answer is held against
- * PlainOffice's, nothing may throw, and no coin may come or go but from outside.
+ * PlainOffice's, nothing may throw, and no coin may come or go but from outside. What is asked of all at
+ * last goes beyond the document's 512 calls: the class itself sets no such limit.
  */
 public final class AnyCallsTest {
     private static final int RUNS = 700;
